@@ -648,6 +648,12 @@ public final class PromisesTest {
         Check.told("16: left", jars, 18, () -> jars.foresee(1, 1));
         jars.pass(1);
         Check.told("16: taken from now on", jars, 3, () -> jars.foresee(60, 2));
+        FireflyInn loud = withDarkRooms(5);
+        loud.swarm(5, 3, 5);
+        loud.swarm(5, 4, 5);
+        loud.stay(0, 9, false);
+        loud.stay(0, 1, false);
+        Check.told("16: whispers too", loud, 11, () -> loud.foresee(1, 1));
         for (int bad : new int[] {0, -1, 61, Integer.MIN_VALUE, Integer.MAX_VALUE}) {
             Check.refused("16: nights " + bad, inn, ARGUMENT, () -> inn.foresee(bad, 0));
             Check.refused("16: the nights go first", inn, ARGUMENT, () -> inn.foresee(bad, 3));
@@ -687,6 +693,11 @@ public final class PromisesTest {
         moon.pass(4);
         Check.told("17: the full moon", moon, -1, () -> moon.advise(1));
         Check.told("17: the night behind it", moon, 0, () -> moon.advise(2));
+        FireflyInn seen = withRooms(5, 0);
+        seen.lamp(0);
+        seen.swarm(5, 0, 9);
+        seen.stay(0, 0, false);
+        Check.told("17: no more than without", seen, -1, () -> seen.advise(2));
         for (int bad : new int[] {0, -1, 31, 60, Integer.MIN_VALUE, Integer.MAX_VALUE}) {
             Check.refused("17: nights " + bad, inn, ARGUMENT, () -> inn.advise(bad));
         }
@@ -733,6 +744,10 @@ public final class PromisesTest {
         growing.stay(2, 0, true);
         Check.told("18: behind one night", growing, 1, () -> growing.harm(1));
         Check.told("18: behind 30 nights", growing, 0, () -> growing.harm(30));
+        FireflyInn empty = withDarkRooms(1, 0);
+        empty.swarm(5, 0, 10);
+        empty.stay(1, 0, true);
+        Check.told("18: a jar where there are none", empty, -1, () -> empty.harm(2));
         for (int bad : new int[] {0, -1, 31, 60, Integer.MIN_VALUE, Integer.MAX_VALUE}) {
             Check.refused("18: nights " + bad, inn, ARGUMENT, () -> inn.harm(bad));
         }
